@@ -1090,6 +1090,14 @@ public final class NoonGuides {
             return NONE;
         }
 
+        int placeOf(int person) {
+            return hasPerson(person) ? people[person].place : NONE;
+        }
+
+        int minutesLost(int person) {
+            return hasPerson(person) ? people[person].lost : 0;
+        }
+
         boolean isGlaring(int when) {
             return !cloudy && hours.areGlaring(when);
         }
@@ -1120,9 +1128,9 @@ public final class NoonGuides {
 
         /** One goes, and leads a set of others if there are any: the minutes left, or NONE. */
         int setOut(int person, int set, int place) {
-            int from = people[person].place;
-            int road = from == NONE ? NONE : roadBetween(from, place);
-            if (road == NONE || !isAble(person, road) || !areAllAt(set, from)) {
+            int from = placeOf(person);
+            int road = hasPlace(from) ? roadBetween(from, place) : NONE;
+            if (!hasRoad(road) || !isAble(person, road) || !areAllAt(set, from)) {
                 return NONE;
             }
             for (int i = 0; i < peopleCount; i++) {
@@ -1158,14 +1166,14 @@ public final class NoonGuides {
         /** Who walks is led by nobody, so only he keeps count of what is left. */
         int leftOf(int person) {
             int leader = people[person].leader;
-            return leader == NONE ? people[person].left : people[leader].left;
+            return hasPerson(leader) ? people[leader].left : people[person].left;
         }
 
         int minutesToGoal(int person) {
             int leader = people[person].leader;
-            int walker = leader == NONE ? person : leader;
+            int walker = hasPerson(leader) ? leader : person;
             int road = people[walker].road;
-            if (road == NONE) {
+            if (!hasRoad(road)) {
                 return FAR;
             }
             int done = hours.doneAt(paceOf(walker, road), minute, people[walker].left);
@@ -1207,7 +1215,7 @@ public final class NoonGuides {
         private int arrive(int walker) {
             int came = 0;
             int road = people[walker].road;
-            for (int i = 0; i < peopleCount && road != NONE; i++) {
+            for (int i = 0; i < peopleCount && hasRoad(road); i++) {
                 if (isWith(i, walker)) {
                     people[i].gone[road] = Math.min(99, people[i].gone[road] + 1);
                     if (i != walker) {
@@ -1229,7 +1237,7 @@ public final class NoonGuides {
         /** In how many of the next minutes a walker would stand lost by some hours of glare. */
         private int lostOf(int walker, int minutes, Hours by) {
             int road = people[walker].road;
-            if (road == NONE) {
+            if (!hasRoad(road)) {
                 return 0;
             }
             int pace = paceOf(walker, road);
@@ -1242,10 +1250,8 @@ public final class NoonGuides {
         int lostWithin(int minutes, Hours by) {
             int sum = 0;
             for (int i = 0; i < peopleCount; i++) {
-                Person one = people[i];
-                if (!one.isAtPlace()) {
-                    sum += lostOf(one.leader == NONE ? i : one.leader, minutes, by);
-                }
+                int leader = people[i].leader;
+                sum += lostOf(hasPerson(leader) ? leader : i, minutes, by);
             }
             return sum;
         }
@@ -1975,6 +1981,9 @@ public final class NoonGuides {
 
         private int rowBehindEnd(Plan plan, int row) {
             int begun = plan.partner[row];
+            if (begun < 0 || begun >= plan.rows) {
+                return plan.rows;
+            }
             if (plan.kinds[begun] == Plan.LOOP && turnsLeft[begun] > 1) {
                 turnsLeft[begun]--;
                 return begun + 1;
@@ -1998,9 +2007,9 @@ public final class NoonGuides {
                 case Plan.ANY: isDone = sendAny(land); break;
                 case Plan.CLOUD: isDone = makeCloudy(land, true); break;
                 case Plan.CLEAR: isDone = makeCloudy(land, false); break;
-                case Plan.WHEN_AT: holds = land.people[a].place == b; break;
+                case Plan.WHEN_AT: holds = land.placeOf(a) == b; break;
                 case Plan.WHEN_GLARE: holds = land.isGlaring(land.minute); break;
-                case Plan.WHEN_LOST: holds = compares(land.people[a].lost, b, c); break;
+                case Plan.WHEN_LOST: holds = compares(land.minutesLost(a), b, c); break;
                 case Plan.LOOP: turnsLeft[row] = a; break;
                 default: return plan.rows;
             }
