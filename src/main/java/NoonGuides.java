@@ -868,7 +868,7 @@ public final class NoonGuides {
             return many - glareBefore(start + many) + glareBefore(start);
         }
 
-        /** The minute at which somebody of a pace has got on for so many (1 or more); FAR: never. */
+        /** The minute at which somebody of a pace has got on for so many (1 at least), or FAR. */
         int doneAt(int pace, int start, int many) {
             if (pace == NEVER || start >= FAR) {
                 return FAR;

@@ -76,6 +76,11 @@ public final class OddsTest {
                 + "road a b minutes 30;sighted x at a;", 1);
         night.due(30, "go", 0, 1).due(0, "bestFrom", 30).due(1, "rule", 0, 22)
                 .due(0, "bestFrom", 999);
+        // at 22:30 all hours are glare till 24 but those from 23 on
+        Check late = new Check().land("glare 0 to 24;clock 1350;place a;place b;"
+                + "road a b minutes 20;sighted x at a glasses;", 1);
+        late.due(20, "go", 0, 1).due(1, "glasses", 0, 0).due(23, "bestFrom", 20)
+                .due(23, "bestFrom", 999);
         Check dawn = new Check().land("glare 0 to 23;clock 1430;place a;place b;"
                 + "road a b minutes 30;sighted x at a;", 1);
         dawn.due(30, "go", 0, 1).due(1410, "arrives", 0).due(0, "bestFrom", 10)
