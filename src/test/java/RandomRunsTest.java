@@ -291,6 +291,10 @@ public final class RandomRunsTest {
         if (draws.chance(90)) {
             text("land", landText());
         }
+        // some runs come near the last minute
+        for (int i = draws.chance(8) ? 0 : 98; i < 98; i++) {
+            call("passes", 999);
+        }
         while (calls < 500 && !isWrong) {
             step();
         }
