@@ -85,9 +85,14 @@ final class Check {
 
     /** A text that has a FAULT: the tape is empty behind it, and the old one stays. */
     Check faulty(String name, String text, int kind, int place) {
+        return faultyPart(name, text, text.length(), kind, place);
+    }
+
+    /** The first n bytes of a text alone are what is told. */
+    Check faultyPart(String name, String text, int n, int kind, int place) {
         feed(text);
         String ahead = Snapshot.withoutTape(again());
-        same(name + " of " + text, ask(name, text.length()), -1);
+        same(name + " of " + text, ask(name, n), -1);
         same(name + " of " + text + " status", x.status(), 10);
         same(text + " fault", ask("fault", 0) + " at " + ask("fault", 1), kind + " at " + place);
         same(text + " changed something", Snapshot.withoutTape(again()), ahead);
@@ -108,6 +113,16 @@ final class Check {
 
     Check days(String text, int steps) {
         return feed(text).due(steps, "days", text.length());
+    }
+
+    /** The LAND with all that became of it, as a text. */
+    String land() {
+        return Snapshot.ofLand(again());
+    }
+
+    /** Another object on which all was done that was done on this one. */
+    NoonGuides made() {
+        return again();
     }
 
     /** A new object on which all was done that was done on this one. */

@@ -22,12 +22,33 @@ final class Snapshot {
         appendLand(s, x);
         s.append("live ").append(x.live(77)).append('\n');
         appendLand(s, x);
+        appendOrigins(s, x);
         for (int i = 0; i < 4; i++) {
             s.append("back ").append(x.back()).append(" live ").append(x.live(5)).append(' ')
                     .append(x.many(5)).append(' ').append(x.many(14)).append(' ')
                     .append(x.many(12)).append('\n');
         }
         return s.toString();
+    }
+
+    /** The LAND with all that became of it, and where those on a ROAD came from. */
+    static String ofLand(NoonGuides x) {
+        StringBuilder s = new StringBuilder();
+        appendLand(s, x);
+        appendOrigins(s, x);
+        return s.toString();
+    }
+
+    private static void appendOrigins(StringBuilder s, NoonGuides x) {
+        int people = x.many(2);
+        for (int p = 0; p < people; p++) {
+            x.turn(p);
+        }
+        s.append("from");
+        for (int p = 0; p < people; p++) {
+            s.append(' ').append(x.person(p, 0));
+        }
+        s.append('\n');
     }
 
     private static void appendTrays(StringBuilder s, NoonGuides x) {
