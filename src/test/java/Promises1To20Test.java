@@ -416,7 +416,9 @@ public final class Promises1To20Test {
                 .refused(1, "copyPlaces", 4).refused(1, "copyPlaces", -1)
                 .refused(1, "copyPlaces", MOST).refused(1, "copyPlaces", LEAST)
                 .due(1, "tray", 0, 0, 3).refused(4, "copyPlaces", 0).due(1, "tray", 0, 0, 4)
-                .due(4, "copyPlaces", 0);
+                .due(4, "copyPlaces", 0).due(0, "passes", 9).due(20, "go", 0, 1)
+                .due(1, "passes", 20).due(4, "copyPlaces", 0).due(1, "read", 0, 0)
+                .due(2, "read", 0, 3);
         c.land("", 0).due(1, "tray", 0, 0, 0).due(0, "copyPlaces", 0).refused(3, "copyPlaces", 1);
     }
 }

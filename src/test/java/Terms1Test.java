@@ -166,6 +166,7 @@ public final class Terms1Test {
                 .faulty("land", "place a;place b;road a b minutes 5 smells", 2, 41)
                 .faulty("land", "place a;place b;road a b minutes 5 smells smells;", 2, 42)
                 .faulty("land", "place a;place b;road a b smells;", 2, 25)
+                .faulty("land", "place a;place b;road a b 5;", 2, 25)
                 .faulty("land", "place a;place b;road a b minutes 5 5;", 2, 35);
         c.faulty("land", "place a;sighted;", 2, 15).faulty("land", "place a;sighted s;", 2, 17)
                 .faulty("land", "place a;sighted s at;", 2, 20)

@@ -350,7 +350,7 @@ public final class Terms4Test {
                 .due(99399, "many", 5).days("wait 600;", 1).due(1, "live", 0).due(0, "lived", 0)
                 .due(99999, "many", 5);
         c.days("go s b;wait 1;wait 600;", 3).due(3, "live", 0).due(2, "lived", 0)
-                .due(0, "lived", 1).due(99, "person", 0, 2);
+                .due(0, "lived", 1).due(0, "lived", 2).due(99, "person", 0, 2);
         Check d = new Check().days(Lands.steps("wait 600;", 30), 30);
         for (int i = 0; i < 5; i++) {
             d.due(30, "live", 0);
