@@ -1,7 +1,7 @@
 import com.sun.management.ThreadMXBean;
 import java.lang.management.ManagementFactory;
 
-/** No call makes anything: all rows are made with the object. */
+/** No call makes anything: all rows are made with the object, for all the calls that it is used for. */
 public final class RoomTest {
     private static final ThreadMXBean COUNTER =
             (ThreadMXBean) ManagementFactory.getThreadMXBean();
@@ -62,6 +62,31 @@ public final class RoomTest {
         System.out.println("an object: " + object + " bytes; 20 rounds of calls: " + calls);
         Check.same("an object is small", object < 40000, true);
         Check.same("calls make nothing", calls < 2000, true);
+        toTheLastCall(land, days, text.length());
         Check.end("RoomTest");
+    }
+
+    /** "An object is used for at most 512 calls": the dearest ones answer to the last as at first. */
+    private static void toTheLastCall(long[][] land, long[][] days, int length) {
+        NoonGuides x = new NoonGuides();
+        bring(x, land);
+        x.land(Check.RING.length());
+        bring(x, days);
+        x.days(length);
+        x.passes(20);
+        int asked = land.length + days.length + 3;
+        String[] names = {"mean", "top", "bottom", "bestFrom", "soonestFirst", "soonestTwo", "meet",
+            "plantSet", "ways", "pairsOwe", "lostIn", "reach", "many"};
+        long[][] arguments = {{9980, 20}, {}, {}, {999}, {0, 2}, {0, 2, 3}, {0, 3}, {2, 2},
+            {0, 0, 2, 10}, {}, {999}, {3}, {5}};
+        long[] first = new long[names.length];
+        for (int i = 0; asked < 512; i++, asked++) {
+            int at = i % names.length;
+            long got = Calls.on(x, names[at], arguments[at]);
+            first[at] = i < names.length ? got : first[at];
+            Check.same("call " + asked + ", " + names[at], got, first[at]);
+            Check.same("call " + asked + " status", x.status(), 0);
+        }
+        Check.same("the minute", first[names.length - 1], 590L);
     }
 }

@@ -110,7 +110,8 @@ public final class Terms1Test {
         }
     }
 
-    /** "TOKENS, as long as they go" */
+    /** "TOKENS, as long as they go, between them blanks (10, 32): WORDS (small letters), NUMBERS (1 to
+     * 4 digits), SIGNS ; < > =" */
     private static void tokensAsLongAsTheyGo() {
         new Check().faulty("land", "placeroad", 2, 0).faulty("land", "placea;", 2, 0).faulty("land", "placeplace a;", 2, 0)
                 .faulty("land", "glareto 1 to 2;", 2, 0).faulty("land", "place a;;", 2, 8)
@@ -144,7 +145,10 @@ public final class Terms1Test {
                 .due(2, "road", 1, 0).due(0, "road", 1, 1);
     }
 
-    /** Each PART as it is written, and what is too much or too little of it. */
+    /** "PART: glare NUMBER to NUMBER ; or clock NUMBER ; or rope NUMBER ; or habit NUMBER ; or odds
+     * NUMBER ; or place NAME ; or road NAME NAME minutes NUMBER [smells] ; or sighted NAME at NAME
+     * [glasses] ; or blind NAME at NAME ; or knows NAME NAME NAME ; ({ } any number of times, [ ]
+     * perhaps.)" - each of them, and what is too much or too little of it */
     private static void partsInFull() {
         Check c = new Check();
         c.faulty("land", "glare;", 2, 5).faulty("land", "glare 1;", 2, 7)
@@ -184,7 +188,9 @@ public final class Terms1Test {
                 .land(FOUR + "knows s a b;", 2);
     }
 
-    /** "NAME: a WORD .. that is none of glare, to, clock .." - each of them, and words next to them */
+    /** "NAME: a WORD of 1 to 8 letters that is none of glare, to, clock, rope, habit, odds, place,
+     * road, minutes, smells, sighted, at, glasses, blind, knows, wait, go, lead, any, cloud, clear,
+     * when, lost, loop, end, stop." - each of them, and words next to them */
     private static void namesAreNoKeywords() {
         for (String word : Lands.KEYWORDS) {
             Check c = new Check().land("place here;", 0);

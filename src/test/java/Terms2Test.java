@@ -128,7 +128,7 @@ public final class Terms2Test {
         }
     }
 
-    /** "he is on the ROAD, LEFT: all its MINUTES" */
+    /** "GO to a PLACE: .. he is on the ROAD, LEFT: all its MINUTES" */
     private static void goTakesAllItsMinutes() {
         new Check().land("clock 0;" + SIX, 6).due(20, "go", 0, 1).due(20, "person", 0, 2)
                 .refused(8, "person", 0, 0).due(1, "person", 0, 1).refused(8, "person", 0, 3)
@@ -151,7 +151,7 @@ public final class Terms2Test {
         c.due(1, "cloud", 1).due(5, "go", 0, 0).refused(9, "go", 0, 1);
     }
 
-    /** "with some others, AT the same PLACE, as many as ROPE at most" */
+    /** "LEAD: likewise with some others, AT the same PLACE, as many as ROPE at most" */
     private static void asManyAsRope() {
         for (int rope = 1; rope <= 9; rope++) {
             Check c = new Check().land("rope " + rope + ";" + Lands.full(), 8);
@@ -195,7 +195,8 @@ public final class Terms2Test {
         }
     }
 
-    /** "PERSON by PERSON .. of those who are on a ROAD by themselves, or LEAD there" */
+    /** "A MINUTE goes by: PERSON by PERSON, by numbers, of those who are on a ROAD by themselves, or
+     * LEAD there" */
     private static void aMinuteGoesBy() {
         Check c = new Check().land("clock 590;" + SIX, 6).due(20, "lead", 0, 8, 1)
                 .due(20, "lead", 1, 16, 1).due(20, "go", 2, 1).due(0, "passes", 15)
@@ -230,7 +231,7 @@ public final class Terms2Test {
                 .due(8, "person", 1, 4).due(728, "many", 5);
     }
 
-    /** "LOST a MINUTE more each": in each minute that is lost, all whom he LEADS */
+    /** "else he, and all whom he LEADS, are LOST a MINUTE more each" - in each minute that is lost */
     private static void aMinuteLessOrLost() {
         Check c = new Check().land("clock 595;" + SIX, 6).due(20, "lead", 0, 56, 1)
                 .due(0, "passes", 6).due(4, "many", 14).due(0, "passes", 10).due(44, "many", 14)
@@ -285,7 +286,7 @@ public final class Terms2Test {
                 .due(1, "turn", 0).due(0, "owes", 3, 0).due(0, "net", 0).due(0, "gone", 3, 0);
     }
 
-    /** "what one OWES another one, the other one OWES him so much less than nothing" */
+    /** "OWES: what one OWES another one, the other one OWES him so much less than nothing" */
     private static void owesTheOtherWayRound() {
         new Check().land("clock 0;place a;place b;road a b minutes 7 smells;"
                 + "sighted s at a;blind x at a;", 2)

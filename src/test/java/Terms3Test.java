@@ -68,7 +68,7 @@ public final class Terms3Test {
                 .refused(9, "meet", 0, 1);
     }
 
-    /** "the fewest MINUTES till he is AT another one, alone" */
+    /** "SOONEST of one who is AT a PLACE: the fewest MINUTES till he is AT another one, alone" */
     private static void soonestIsTheFewest() {
         new Check().land(at(0), 5).due(0, "soonest", 0, 0).due(10, "soonest", 0, 1)
                 .due(15, "soonest", 0, 2).due(29, "soonest", 0, 3).refused(8, "soonest", 0, 4)

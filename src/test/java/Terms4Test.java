@@ -43,7 +43,7 @@ public final class Terms4Test {
         Check.end("Terms4Test");
     }
 
-    /** "DAYS are a TEXT of at most 300 bytes" */
+    /** "DAYS are a TEXT of at most 300 bytes, of such TOKENS" */
     private static void threeHundredBytes() {
         Check c = Check.ring().days("stop;" + Lands.blanks(295), 1)
                 .days(Lands.blanks(295) + "stop;", 1).days(Lands.blanks(300), 0)
@@ -70,7 +70,9 @@ public final class Terms4Test {
                 .faulty("days", "anyany;", 2, 0).faulty("days", "goann well;", 2, 0);
     }
 
-    /** Each STEP as it is written, and what is too much or too little of it. */
+    /** "STEP: wait NUMBER ; or go NAME NAME ; or lead NAME NAME NAME ; or any ; or cloud ; or clear ;
+     * or when TEST ; {STEP} end ; or loop NUMBER ; {STEP} end ; or stop ;" - each of them, and what is
+     * too much or too little of it */
     private static void stepsInFull() {
         Check c = Check.ring().days("wait 600;go ann well;lead ann cid hill;any;cloud;clear;"
                 + "when at ann town;end;when glare;end;when lost ann<1;end;loop 2;end;stop;", 11);
@@ -256,7 +258,7 @@ public final class Terms4Test {
                 .faulty("days", "lead ann town well;", 3, 9);
     }
 
-    /** "wait: so many MINUTES"; "lead: the first LEADS the second to a PLACE" */
+    /** "wait: so many MINUTES (1 to 600)"; "lead: the first LEADS the second to a PLACE" */
     private static void waitAndLead() {
         Check.ring().days("lead cid ann well;wait 1;", 2).due(2, "live", 0).due(2, "person", 0, 3)
                 .due(19, "person", 0, 2).due(571, "many", 5).days("wait 18;wait 1;", 2)
